@@ -96,11 +96,16 @@ public final class BlockRows {
 
     public int chain(int b) {
         refresh();
-        return isBlock(b) ? chains.first[b] : NONE;
+        return isBlock(b) ? chains.firstOf(b) : NONE;
     }
 
     private boolean isBlock(int b) {
         return b >= 0 && b < blocks;
+    }
+
+    // Whatever number is a block in some size; the rows are as long as the greatest size asks.
+    private static boolean fitsRows(int b) {
+        return b >= 0 && b < MOST_BLOCKS;
     }
 
     private boolean chainsAreBetter() {
@@ -144,7 +149,7 @@ public final class BlockRows {
         }
 
         void append(int b) {
-            if (filled >= MOST_BLOCKS || b < 0 || b >= MOST_BLOCKS) {
+            if (filled >= MOST_BLOCKS || !fitsRows(b)) {
                 return;
             }
             members[filled] = b;
@@ -157,11 +162,11 @@ public final class BlockRows {
         }
 
         boolean holds(int b) {
-            return places[b] != NONE;
+            return fitsRows(b) && places[b] != NONE;
         }
 
         boolean goesOn(int u, int v) {
-            return holds(u) && places[v] == places[u] + 1;
+            return holds(u) && holds(v) && places[v] == places[u] + 1;
         }
     }
 
@@ -277,6 +282,10 @@ public final class BlockRows {
             }
         }
 
+        int firstOf(int b) {
+            return fitsRows(b) ? first[b] : NONE;
+        }
+
         void joinAlong(Ways ways) {
             for (int w = 0; w < ways.known; w++) {
                 int u = ways.from[w];
@@ -305,16 +314,17 @@ public final class BlockRows {
         }
 
         private boolean mayJoin(int u, int v) {
-            boolean isLast = first[u] != NONE && next[u] == NONE;
-            boolean isFirst = first[v] == v;
-            return isLast && isFirst && first[u] != v && v != 0;
+            boolean isLast = firstOf(u) != NONE && next[u] == NONE;
+            boolean isFirst = firstOf(v) == v;
+            return isLast && isFirst && firstOf(u) != v && v != 0;
         }
 
         private void join(int u, int v) {
+            int start = firstOf(u);
             next[u] = v;
             int b = v;
-            for (int step = 0; step < MOST_BLOCKS && b != NONE; step++) {
-                first[b] = first[u];
+            for (int step = 0; step < MOST_BLOCKS && fitsRows(b); step++) {
+                first[b] = start;
                 b = next[b];
             }
         }
@@ -323,20 +333,21 @@ public final class BlockRows {
         private int mostPulled(Line hotBlocks, Line placed) {
             int chosen = NONE;
             for (int k = 0; k < hotBlocks.filled; k++) {
-                int b = hotBlocks.members[k];
-                if (placed.holds(b)) {
-                    continue;
-                }
-                if (chosen == NONE || pulls[first[b]] > pulls[chosen]) {
-                    chosen = first[b];
+                int b = hotBlocks.blockAt(k);
+                if (!placed.holds(b) && (chosen == NONE || pullOf(firstOf(b)) > pullOf(chosen))) {
+                    chosen = firstOf(b);
                 }
             }
             return chosen;
         }
 
+        private long pullOf(int chain) {
+            return fitsRows(chain) ? pulls[chain] : 0L;
+        }
+
         private void appendChain(int chosen, Line line) {
             int b = chosen;
-            for (int step = 0; step < MOST_BLOCKS && b != NONE; step++) {
+            for (int step = 0; step < MOST_BLOCKS && fitsRows(b); step++) {
                 line.append(b);
                 b = next[b];
             }
@@ -345,12 +356,12 @@ public final class BlockRows {
         // The placed chain pulls at itself too, which is harmless: it is not chosen again.
         private void pullTowards(int placed, Ways ways) {
             for (int w = 0; w < ways.known; w++) {
-                int a = first[ways.from[w]];
-                int b = first[ways.to[w]];
-                if (a == placed && b != NONE) {
+                int a = firstOf(ways.from[w]);
+                int b = firstOf(ways.to[w]);
+                if (a == placed && fitsRows(b)) {
                     pulls[b] += ways.counts[w];
                 }
-                if (b == placed && a != NONE) {
+                if (b == placed && fitsRows(a)) {
                     pulls[a] += ways.counts[w];
                 }
             }
