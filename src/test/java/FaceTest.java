@@ -43,9 +43,21 @@ public final class FaceTest {
         return Modifier.isPublic(modifiers) && Modifier.isFinal(modifiers);
     }
 
-    private static boolean insideIsStatic() {
+    private static boolean insideIsStaticAndNotPublic() {
         return Arrays.stream(BlockRows.class.getDeclaredClasses())
-                .allMatch(c -> Modifier.isStatic(c.getModifiers()));
+                .mapToInt(Class::getModifiers)
+                .allMatch(m -> Modifier.isStatic(m) && !Modifier.isPublic(m) && !Modifier.isProtected(m));
+    }
+
+    // Rule 1 of LANGUAGE.md: no private method bears the name of a public one.
+    private static boolean namesAreApart() {
+        Set<String> open = new TreeSet<>();
+        Set<String> hidden = new TreeSet<>();
+        for (Method m : BlockRows.class.getDeclaredMethods()) {
+            (Modifier.isPublic(m.getModifiers()) ? open : hidden).add(m.getName());
+        }
+        hidden.retainAll(open);
+        return hidden.isEmpty();
     }
 
     public static void main(String[] args) {
@@ -58,8 +70,12 @@ public final class FaceTest {
             System.out.println("the class is not public and final");
             right = false;
         }
-        if (!insideIsStatic()) {
-            System.out.println("a class inside is not static");
+        if (!insideIsStaticAndNotPublic()) {
+            System.out.println("a class inside is not static, or is public or protected");
+            right = false;
+        }
+        if (!namesAreApart()) {
+            System.out.println("a private method bears the name of a public one");
             right = false;
         }
         if (!right) {
