@@ -513,10 +513,10 @@ public final class EdgesTest {
     private static void waySumsBeyondInt() {
         edge = "way: sums beyond int";
         BlockRows x = sized(2);
-        for (long told = 1; told <= 511; told++) {
+        for (long told = 1; told <= 510; told++) {
             dueWay(x, 0, 1, MOST_TOLD, true, told * MOST_TOLD);
         }
-        dueCount(x, 0, 1, 511000000000L);
+        dueCount(x, 0, 1, 510000000000L);
     }
 
     // Both limits lie beyond an object's 512 calls, where answers are free; they hold there too.

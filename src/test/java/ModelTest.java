@@ -268,7 +268,8 @@ public final class ModelTest {
         int most = oneIn(3) ? 1000000001 : 1 + below(6);
         int changes = 1 + below(8);
         boolean same = due(run, "size(" + n + ")", x.size(n), model.size(n));
-        for (int call = 1; call < CALLS - n && same; call++) {
+        // A call heats one block at most, so there are calls left to ask for the whole row.
+        for (int call = 1; call + 1 < CALLS - model.hot.size() && same; call++) {
             same = call < n * 2 || below(9) < changes ? change(run, x, model, most) : ask(run, x, model);
         }
         if (same) {

@@ -232,6 +232,7 @@ public final class TermsTest {
         }
     }
 
+    // This too shows only beyond 512 calls.
     private static void toldAgainFillsNoRoom() {
         term = "a way told again is not one more of the 1000";
         BlockRows x = sized(2);
@@ -299,10 +300,9 @@ public final class TermsTest {
     // "ROW: hot blocks are CHAINS of one."
 
     private static void chainsOfOne() {
-        BlockRows x = sized(6);
         for (int set = 0; set < 64; set++) {
             term = "chains of one, hot set " + set;
-            x.size(6);
+            BlockRows x = sized(6);
             heatSet(x, 6, set);
             due("length()", x.length(), Integer.bitCount(set));
             for (int b = 0; b < 6; b++) {
